@@ -76,6 +76,8 @@ public final class PackTest {
         Trial.due("far places", t.pack(), "95" + "fe" + "ff00" + "ff01" + "ff03");
         t.drop().secret("\u000e", "x").secret("\u000f", "y").secret("\u0014", "z");
         Trial.due("4 bits", t.pack(), "1e0178" + "1f000179" + "1f05017a");
+        t.drop().limit(0).field("\u000e", "x").field("\u000f", "y").field("\u0014", "z");
+        Trial.due("4 bits of loose ones", t.pack(), "20" + "0e0178" + "0f000179" + "0f05017a");
     }
 
     /** Places of names at the edges of the 6 bits. */
@@ -151,6 +153,9 @@ public final class PackTest {
         dueValue(",,,,,", "84" + "f7bdef7f");
         dueValue(Trial.many("0", 200), "fd" + Trial.many("00", 125));
         dueValue(Trial.many("e", 199) + "Z", tight(Trial.many("e", 199) + "Z"));
+        dueValue(Trial.many("e", 175) + Trial.many("Z", 11), tight(Trial.many("e", 175) + Trial.many("Z", 11)));
+        dueValue(Trial.many("e", 174) + Trial.many("Z", 11), tight(Trial.many("e", 174) + Trial.many("Z", 11)));
+        dueValue(Trial.many("eZ", 90), "7f35" + Trial.many("655a", 90));
         dueValue("bfgjkqvwxyz", "0b" + Trial.hexOf("bfgjkqvwxyz"));
         dueValue("AAAAAAAAAA" + Trial.many("1", 100), tight("AAAAAAAAAA" + Trial.many("1", 100)));
     }

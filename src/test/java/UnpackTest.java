@@ -5,6 +5,7 @@ public final class UnpackTest {
         everyKind();
         limits();
         entriesTooLarge();
+        mostEntries();
         numbersInManyBytes();
         bytesEnd();
         places();
@@ -74,6 +75,26 @@ public final class UnpackTest {
         t.unpack("4001610162");
         Trial.due("as large as the limit", t.unpack("4323" + Trial.many("41", 35)), "0 -1");
         Trial.due("it alone", t.table(1), "a=" + Trial.many("A", 35) + " 68/68");
+    }
+
+    /** Entries of 32 alone, the same one over and over: 128 of them fill the largest table. */
+    private static void mostEntries() {
+        Trial t = trial();
+        t.unpack("3fe11f" + Trial.many("400000", 60));
+        t.unpack(Trial.many("400000", 60));
+        t.unpack(Trial.many("400000", 7));
+        Trial.due("127", t.x.table(1, 0) + " " + t.x.table(1, 1), "127 4064");
+        t.unpack("4001610162");
+        Trial.due("one goes for one of 34", t.x.table(1, 0) + " " + t.x.table(1, 1), "127 4066");
+        Trial.due("the newest", t.x.entry(1, 0) + " " + t.x.entry(1, 126) + " " + t.x.entry(1, 127), "34 32 -1");
+        t.unpack("20");
+        t.unpack("3fe11f" + Trial.many("400000", 60));
+        t.unpack(Trial.many("400000", 60));
+        t.unpack(Trial.many("400000", 8));
+        Trial.due("128", t.x.table(1, 0) + " " + t.x.table(1, 1), "128 4096");
+        t.unpack("400000");
+        Trial.due("still 128", t.x.table(1, 0) + " " + t.x.entry(1, 127) + " " + t.x.check(), "128 32 1");
+        Trial.due("the last place", t.unpack("ff03") + " " + t.unpack("ff04"), "0 -1 2 0");
     }
 
     private static void numbersInManyBytes() {
