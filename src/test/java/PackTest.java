@@ -139,8 +139,7 @@ public final class PackTest {
         t.secret(Trial.many("Z", 126), Trial.many("Y", 127));
         Trial.due("126 and 127", t.pack(),
             "10" + "7e" + Trial.many("5a", 126) + "7f00" + Trial.many("59", 127));
-        t.drop().secret("", Trial.many("X", 200));
-        Trial.due("200", t.pack(), "10" + "00" + "7f49" + Trial.many("58", 200));
+        Trial.due("200", new Trial().secret("", Trial.many("X", 200)).pack(), "10" + "00" + "7f49" + Trial.many("58", 200));
     }
 
     private static void tightTexts() {

@@ -3,7 +3,13 @@ import java.nio.charset.StandardCharsets;
 /** A FieldPacker with shorthands for tests; texts are Latin-1, so a character is a byte. */
 final class Trial {
     private static int wrong = 0;
-    final FieldPacker x = new FieldPacker();
+    private static String sentence = "";
+    final Counted x = new Counted();
+
+    /** The sentence that the answers which come are held to; it is told with each that is not as due. */
+    static void holds(String where, String words) {
+        sentence = where + " \"" + words + "\": ";
+    }
 
     static void due(String what, long got, long want) {
         due(what, Long.toString(got), Long.toString(want));
@@ -12,7 +18,7 @@ final class Trial {
     static void due(String what, String got, String want) {
         if (!got.equals(want)) {
             wrong++;
-            System.out.println(what + " answered " + got + ", due is " + want);
+            System.out.println(sentence + what + " answered " + got + ", due is " + want);
         }
     }
 
@@ -86,8 +92,10 @@ final class Trial {
 
     String block() {
         StringBuilder hex = new StringBuilder();
-        for (int k = 0; x.packed(k) >= 0; k++) {
-            hex.append(String.format("%02x", x.packed(k)));
+        int b = x.packed(0);
+        for (int k = 1; b >= 0; k++) {
+            hex.append(String.format("%02x", b));
+            b = x.packed(k);
         }
         return hex.toString();
     }
@@ -120,31 +128,42 @@ final class Trial {
     /** The list as name=value, a secret one with a star in front. */
     String list() {
         StringBuilder all = new StringBuilder();
-        for (int i = 0; x.about(i, 0) >= 0; i++) {
+        int fields = x.count(0);
+        for (int i = 0; i < fields; i++) {
             all.append(i == 0 ? "" : " ").append(x.about(i, 2) == 1 ? "*" : "");
-            for (int k = 0; k < x.about(i, 0); k++) {
-                all.append((char) x.byteOf(i, 0, k));
-            }
-            all.append('=');
-            for (int k = 0; k < x.about(i, 1); k++) {
-                all.append((char) x.byteOf(i, 1, k));
-            }
+            all.append(part(i, 0)).append('=').append(part(i, 1));
         }
         return all.toString();
+    }
+
+    /** A field's name (part 0) or value (1). */
+    private String part(int i, int part) {
+        StringBuilder text = new StringBuilder();
+        int length = x.about(i, part);
+        for (int k = 0; k < length; k++) {
+            text.append((char) x.byteOf(i, part, k));
+        }
+        return text.toString();
     }
 
     /** A side's table as name=value, the newest first, then sizes together / limit. */
     String table(int side) {
         StringBuilder all = new StringBuilder();
-        for (int i = 0; i < x.table(side, 0); i++) {
-            for (int part = 0; part < 2; part++) {
-                for (int k = 0; x.entryByte(side, i, part, k) >= 0; k++) {
-                    all.append((char) x.entryByte(side, i, part, k));
-                }
-                all.append(part == 0 ? '=' : ' ');
-            }
+        int entries = x.table(side, 0);
+        for (int i = 0; i < entries; i++) {
+            all.append(entryPart(side, i, 0)).append('=').append(entryPart(side, i, 1)).append(' ');
         }
         return all.append(x.table(side, 1)).append('/').append(x.table(side, 2)).toString();
+    }
+
+    private String entryPart(int side, int i, int part) {
+        StringBuilder text = new StringBuilder();
+        int b = x.entryByte(side, i, part, 0);
+        for (int k = 1; b >= 0; k++) {
+            text.append((char) b);
+            b = x.entryByte(side, i, part, k);
+        }
+        return text.toString();
     }
 
     private static long join(byte[] bytes, int from, int n) {
