@@ -405,12 +405,17 @@ public final class FieldPacker {
 
         void makeRoom(int cost) {
             for (; size > 0 && total + cost > limit; size--) {
-                total -= entries[size - 1].cost();
+                total -= costAt(size - 1);
             }
         }
 
         Field at(int i) {
             return i < 0 || i >= size ? null : entries[i];
+        }
+
+        int costAt(int i) {
+            Field entry = at(i);
+            return entry == null ? 0 : entry.cost();
         }
 
         Field atPlace(int place) {
@@ -440,7 +445,7 @@ public final class FieldPacker {
         boolean isSound() {
             int sum = 0;
             for (int i = 0; i < size; i++) {
-                sum += entries[i].cost();
+                sum += costAt(i);
             }
             return sum == total && total <= limit;
         }

@@ -18,6 +18,7 @@ public final class LookEdgeTest {
         countOfEach();
         countOfOthers();
         countsThatRefusedCallsLeave();
+        countsOfAllCalls();
         checkAtTheEdges();
         looksChangeNothing();
         Trial.end();
@@ -133,7 +134,8 @@ public final class LookEdgeTest {
 
     private static void entrySizes() {
         Trial.holds("promise 17", "The size of a side's entry, i from 0, the newest first");
-        Trial t = new Trial().limit(4096).field("", "").field("", "v").field("nn", "").field(Trial.many("N", 200), Trial.many("V", 200));
+        Trial t = new Trial().limit(4096).field("", "").field("", "v").field("nn", "");
+        t.field(Trial.many("N", 200), Trial.many("V", 200));
         t.pack();
         t.around();
         for (int side = 0; side < 2; side++) {
@@ -273,6 +275,18 @@ public final class LookEdgeTest {
         dueCounts("after a fault", t, "1 0 0 0 5 1 1");
     }
 
+    private static void countsOfAllCalls() {
+        Trial.holds("what it is", "An object is used for at most 512 calls after it has been made");
+        Trial packed = new Trial();
+        Trial unpacked = new Trial();
+        for (int i = 0; i < 510; i++) {
+            Trial.due("pack", packed.x.pack(), 0);
+            Trial.due("unpack", unpacked.x.unpack(), 0);
+        }
+        Trial.due("blocks packed", packed.x.count(5) + " " + packed.x.check(), "510 1");
+        Trial.due("blocks unpacked", unpacked.x.count(6) + " " + unpacked.x.check(), "510 1");
+    }
+
     private static void checkAtTheEdges() {
         Trial.holds("promise 20", "Whether no table is over its limit, and sizes are those of entries: 1");
         Trial t = new Trial();
@@ -301,7 +315,7 @@ public final class LookEdgeTest {
     }
 
     private static void looksChangeNothing() {
-        Trial.holds("promises 9 and 13 to 20", "(calls that only answer)");
+        Trial.holds("not promised", "Nothing is promised beyond the answers and state changes described above");
         for (int look = 0; look < 9; look++) {
             int which = look;
             Trial t = new Trial();

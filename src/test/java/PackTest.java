@@ -1,7 +1,5 @@
 /** Promise 8, and limit() as blocks tell it: what bytes a list is packed as, and what stays in the table. */
 public final class PackTest {
-    private static final String SIGNS = "0123456789aceilnorstdhmpu-./:=,";
-
     public static void main(String[] args) {
         emptyList();
         wholePlaces();
@@ -115,7 +113,7 @@ public final class PackTest {
         Trial t = new Trial();
         t.limit(40).field("A", "1234567").field("A", "12345678").field("B", "12345678");
         Trial.due("as large as the limit, and more", t.pack(), "3f09"
-            + "400141" + "8508864298ff" + "01" + tight("12345678") + "000142" + tight("12345678"));
+            + "400141" + "8508864298ff" + "01" + Trial.tight("12345678") + "000142" + Trial.tight("12345678"));
         Trial.due("table", t.table(0), "A=1234567 40/40");
         Trial none = new Trial();
         none.limit(31).field("", "");
@@ -147,22 +145,22 @@ public final class PackTest {
         dueValue("aaa", "82" + "5295");
         dueValue("aaaaZ", "05" + "616161615a");
         dueValue("aaaaaaZ", "86" + "5294a52beb5f");
-        dueValue(SIGNS, tight(SIGNS));
-        dueValue(SIGNS, "94" + "00443214c74254b635cf84653a56d7c675be77df");
+        dueValue(Trial.SIGNS, Trial.tight(Trial.SIGNS));
+        dueValue(Trial.SIGNS, "94" + "00443214c74254b635cf84653a56d7c675be77df");
         dueValue(",,,,,", "84" + "f7bdef7f");
         dueValue(Trial.many("0", 200), "fd" + Trial.many("00", 125));
-        dueValue(Trial.many("e", 199) + "Z", tight(Trial.many("e", 199) + "Z"));
-        dueValue(Trial.many("e", 175) + Trial.many("Z", 11), tight(Trial.many("e", 175) + Trial.many("Z", 11)));
-        dueValue(Trial.many("e", 174) + Trial.many("Z", 11), tight(Trial.many("e", 174) + Trial.many("Z", 11)));
+        dueValue(Trial.many("e", 199) + "Z", Trial.tight(Trial.many("e", 199) + "Z"));
+        dueValue(Trial.many("e", 175) + Trial.many("Z", 11), Trial.tight(Trial.many("e", 175) + Trial.many("Z", 11)));
+        dueValue(Trial.many("e", 174) + Trial.many("Z", 11), Trial.tight(Trial.many("e", 174) + Trial.many("Z", 11)));
         dueValue(Trial.many("eZ", 90), "7f35" + Trial.many("655a", 90));
         dueValue("bfgjkqvwxyz", "0b" + Trial.hexOf("bfgjkqvwxyz"));
-        dueValue("AAAAAAAAAA" + Trial.many("1", 100), tight("AAAAAAAAAA" + Trial.many("1", 100)));
+        dueValue("AAAAAAAAAA" + Trial.many("1", 100), Trial.tight("AAAAAAAAAA" + Trial.many("1", 100)));
     }
 
     private static void anyBytes() {
         for (int b = 0; b < 256; b++) {
             String text = "111111" + (char) b + "11";
-            dueValue(text, tight(text));
+            dueValue(text, Trial.tight(text));
         }
     }
 
@@ -172,33 +170,6 @@ public final class PackTest {
         t.secret("", value);
         Trial.due("text " + value, t.pack(), "1000" + want);
         Trial.due("around " + value, t.around() + t.list(), "0 -1*=" + value);
-    }
-
-    /** A text in its tight form, by bits written one behind the other. */
-    private static String tight(String text) {
-        StringBuilder bits = new StringBuilder();
-        for (char c : text.toCharArray()) {
-            int sign = SIGNS.indexOf(c);
-            bits.append(sign < 0 ? "11111" + binary(c, 8) : binary(sign, 5));
-        }
-        while (bits.length() % 8 != 0) {
-            bits.append('1');
-        }
-        int bytes = bits.length() / 8;
-        StringBuilder hex = new StringBuilder();
-        hex.append(bytes < 127 ? String.format("%02x", 128 + bytes) : String.format("ff%02x", bytes - 127));
-        for (int i = 0; i < bits.length(); i += 8) {
-            hex.append(String.format("%02x", Integer.parseInt(bits.substring(i, i + 8), 2)));
-        }
-        return hex.toString();
-    }
-
-    private static String binary(int number, int bits) {
-        StringBuilder all = new StringBuilder();
-        for (int i = bits - 1; i >= 0; i--) {
-            all.append(number >> i & 1);
-        }
-        return all.toString();
     }
 
     private static void limitNumbers() {

@@ -2,6 +2,7 @@ import java.nio.charset.StandardCharsets;
 
 /** A FieldPacker with shorthands for tests; texts are Latin-1, so a character is a byte. */
 final class Trial {
+    static final String SIGNS = "0123456789aceilnorstdhmpu-./:=,";
     private static int wrong = 0;
     private static String sentence = "";
     final Counted x = new Counted();
@@ -39,6 +40,36 @@ final class Trial {
             hex.append(String.format("%02x", b));
         }
         return hex.toString();
+    }
+
+    /** A text in its tight form, by bits written one behind the other. */
+    static String tight(String text) {
+        StringBuilder bits = new StringBuilder();
+        for (char c : text.toCharArray()) {
+            int sign = SIGNS.indexOf(c);
+            bits.append(sign < 0 ? "11111" + binary(c, 8) : binary(sign, 5));
+        }
+        while (bits.length() % 8 != 0) {
+            bits.append('1');
+        }
+        int bytes = bits.length() / 8;
+        StringBuilder hex = new StringBuilder(String.format("%02x", 128 + Math.min(bytes, 127)));
+        if (bytes >= 127) {
+            int more = bytes - 127;
+            hex.append(more < 128 ? String.format("%02x", more) : String.format("%02x%02x", 128 + more % 128, more / 128));
+        }
+        for (int i = 0; i < bits.length(); i += 8) {
+            hex.append(String.format("%02x", Integer.parseInt(bits.substring(i, i + 8), 2)));
+        }
+        return hex.toString();
+    }
+
+    private static String binary(int number, int bits) {
+        StringBuilder all = new StringBuilder();
+        for (int i = bits - 1; i >= 0; i--) {
+            all.append(number >> i & 1);
+        }
+        return all.toString();
     }
 
     Trial type(String text) {
