@@ -9,7 +9,7 @@ public final class ModelTest {
 
     private final Random random;
     private final int run;
-    private final FieldPacker x = new FieldPacker();
+    private final Counted x = new Counted();
     private final Model model = new Model();
     private int calls = 0;
 

@@ -26,8 +26,7 @@ public final class RoomTest {
     /** Texts of 200 bytes in 125: what is unpacked is larger than the block. */
     private static void tightBlocksAgainAndAgain() {
         long before = made();
-        FieldPacker x = new FieldPacker();
-        int calls = 0;
+        Counted x = new Counted();
         for (int i = 0; i < 25; i++) {
             x.type(0x6161616161616161L, 8);
         }
@@ -35,15 +34,14 @@ public final class RoomTest {
         for (int i = 0; i < 46; i++) {
             x.field(1);
         }
-        calls += 72;
         Trial.due("block", x.pack(), 46 * 128);
-        again(x, calls + 1);
+        again(x, 73);
         due("tight blocks", before);
     }
 
     private static void plainBlocksAgainAndAgain() {
         long before = made();
-        FieldPacker x = new FieldPacker();
+        Counted x = new Counted();
         for (int i = 0; i < 60; i++) {
             for (int k = 0; k < 5; k++) {
                 x.type(0xfefefefefefefefeL + i, 8);
@@ -56,8 +54,8 @@ public final class RoomTest {
         due("plain blocks", before);
     }
 
-    private static void again(FieldPacker x, int calls) {
-        for (int i = calls; i < 512; i += 2) {
+    private static void again(Counted x, int calls) {
+        for (int i = calls; i + 2 <= 512; i += 2) {
             x.loop();
             Trial.due("unpack", x.unpack(), 0);
         }
